@@ -795,8 +795,8 @@ public final class AlarmBoxes {
         /** The same story may be found in another order of picking: it is kept once. */
         private void keepKey(long key) {
             int at = found;
-            for (; at > 0 && at <= keys.length && keys[at - 1] > key; at--) {
-                continue;
+            while (at > 0 && at <= keys.length && keys[at - 1] > key) {
+                at--;
             }
             boolean isKept = at > 0 && at <= keys.length && keys[at - 1] == key;
             if (isKept || at >= keys.length) {
@@ -1327,8 +1327,8 @@ public final class AlarmBoxes {
 
         private void nextToken() {
             place = behind;
-            for (; place < letters.held && isBlank(letters.signAt(place)); place++) {
-                continue;
+            while (place < letters.held && isBlank(letters.signAt(place))) {
+                place++;
             }
             char first = letters.signAt(place);
             behind = place + 1;
@@ -1345,16 +1345,17 @@ public final class AlarmBoxes {
         }
 
         private void readWord() {
-            for (; behind < letters.held && isLetter(letters.signAt(behind)); behind++) {
-                continue;
+            while (behind < letters.held && isLetter(letters.signAt(behind))) {
+                behind++;
             }
             kind = behind - place <= LONGEST_WORD ? A_WORD : NO_TOKEN;
         }
 
         private void readNumber() {
             value = letters.signAt(place) - '0';
-            for (; behind < letters.held && isNumeral(letters.signAt(behind)); behind++) {
+            while (behind < letters.held && isNumeral(letters.signAt(behind))) {
                 value = 10 * value + letters.signAt(behind) - '0';
+                behind++;
             }
             kind = behind - place <= LONGEST_NUMBER ? A_NUMBER : NO_TOKEN;
         }

@@ -136,6 +136,10 @@ public final class CardsTest {
         fault(HEAD + "(not(not(1)));", 5, 39);
         fault(HEAD + "(not(not 1 + ward)) + (((box)));", 0, 0);
         fault(HEAD + "(not(not 1 + (ward)));", 0, 0);
+        fault(HEAD + "1 < not not not not not 1;", 5, 54);
+        fault(HEAD + "1 + not not not not not 1;", 5, 54);
+        fault(HEAD + "1 or not not not not not 1;", 5, 55);
+        fault(HEAD + "1 and 1 - (((((1)))));", 5, 45);
         fault(HEAD + "((((1 and call < 2 or out))));", 0, 0);
     }
 

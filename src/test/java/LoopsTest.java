@@ -273,22 +273,28 @@ public final class LoopsTest {
         c.due("6 heard in its third", x.knocked(0, 34), 1);
     }
 
-    /** 55 knocks 30 times in 81 ticks; pulled over and over it fills the tape beyond its 500. */
+    /** 55 knocks 30 times, at 0 2 4 6 8, 12 14 16 18 20, and so on; the 17th run drives the first ten knocks off the tape. */
     private static void tapeOfFiveHundred() {
         AlarmBoxes x = new AlarmBoxes();
         x.box(0, 55, 0, 0, 0, 0);
         for (int i = 0; i < 17; i++) {
             c.due("4 pull " + i, x.pull(0), true);
             x.ticks(200);
+            c.due("6 the 11th knock of the first run", x.knocked(0, 28), 1);
+            c.due("6 the tenth one", x.knocked(0, 21), i < 16 ? 1 : 0);
         }
         int held = 0;
-        for (int i = 0; i < 16; i++) {
-            held += x.knocked(0, 200 * i + 1);
+        for (int run = 0; run < 17; run++) {
+            for (int round = 0; round < 3; round++) {
+                for (int k = 0; k < 5; k++) {
+                    held += x.knocked(0, 200 * run + 27 * round + 1 + 2 * k);
+                }
+            }
         }
-        c.due("6 the first run's begin is off the tape", x.knocked(0, 1), 0);
-        c.due("6 15 begins of the first 16 are on it", held, 15);
-        c.due("6 the tenth knock is off", x.knocked(0, 23), 0);
-        c.due("6 its last knock", x.knocked(0, 75), 1);
+        c.due("6 half of 490 and the odd ones", held, 250);
+        c.due("6 the latest", x.knocked(0, 3200 + 75), 1);
+        c.due("7 what is off the tape is not read", x.reading(0, 1, 21), 0);
+        c.due("7 nor explained", x.reading(0, 1, 100), -1);
     }
 
     private static void lookAndItsThrows() {

@@ -15,6 +15,8 @@ public final class ReadingsTest {
         twoHundred();
         askChooses();
         globalNumbers();
+        allWheels();
+        lastTicks();
         c.end();
     }
 
@@ -232,5 +234,41 @@ public final class ReadingsTest {
         x.ticks(2);
         c.due("7 one way", x.reading(1, 1, 7), 1);
         c.due("9 the second box alone", x.story(0, 0, 0), 2);
+    }
+
+    /** Each wheel, begun at each of 64 ticks of the range, is read as the one box that there is. */
+    private static void allWheels() {
+        for (int number = 11; number <= 555; number++) {
+            AlarmBoxes x = new AlarmBoxes();
+            if (x.box(2, number, 0, 0, 0, 0) == 0) {
+                x.ticks(100);
+                x.pull(0);
+                x.ticks(230);
+                for (int from = 101; from > 101 - 64; from--) {
+                    String call = "reading(2, " + from + ", " + (from + 229) + ") of " + number;
+                    c.due("7 " + call, x.reading(2, from, from + 229), 1);
+                    c.due("8 " + call, x.stories(), 1);
+                    c.due("9 " + call, x.story(0, 0, 1), 101);
+                }
+            }
+        }
+    }
+
+    /** 11 and 12 begin alike; 12 knocks once more 6 ticks behind: this tick tells them apart if the range holds it. */
+    private static void lastTicks() {
+        for (int shortest = 7; shortest <= 300; shortest += 98) {
+            AlarmBoxes x = new AlarmBoxes();
+            x.box(0, 11, 0, 0, 0, 0);
+            x.box(0, 12, 0, 0, 0, 0);
+            x.ticks(300);
+            x.pull(0);
+            x.ticks(10);
+            for (int length = shortest; length < shortest + 98; length++) {
+                c.due("7 " + length + " ticks", x.reading(0, 308 - length, 307), 1);
+                c.due("8 " + length + " ticks", x.stories(), 1);
+                c.due("7 " + length + " ticks, one less", x.reading(0, 307 - length, 306), 1);
+                c.due("8 " + length + " ticks, one less", x.stories(), 2);
+            }
+        }
     }
 }
