@@ -37,16 +37,15 @@ public final class AlarmBoxes {
     private static final int NO_WORD = 2;
 
     private final Loop[] loops = new Loop[LOOPS];
-    private final ArrayList<Box> boxes = new ArrayList<Box>();
     private final Reading latest = new Reading();
-    private final Brigade brigade = new Brigade();
-    private final Cover cover = new Cover(brigade, boxes);
-    private final Letters letters = new Letters();
-    private final CardReader reader = new CardReader(letters);
+    private final Cover cover = new Cover();
+    private final ArrayList<Box> boxes = cover.boxes;
+    private final Brigade brigade = cover.brigade;
+    private final CardReader reader = new CardReader();
+    private final Letters letters = reader.letters;
     private final Book book = new Book();
     private final int[] facts = new int[FACTS];
     private Deck deck = new Deck();
-    private Deck spare = new Deck();
     private int now = 0;
 
     public AlarmBoxes() {
@@ -167,12 +166,10 @@ public final class AlarmBoxes {
     }
 
     public int cards() {
-        int fault = reader.readInto(spare);
+        int fault = reader.readLines();
         letters.held = 0;
         if (fault == 0) {
-            Deck read = spare;
-            spare = deck;
-            deck = read;
+            deck = reader.changeFor(deck);
         }
         return fault;
     }
@@ -659,13 +656,13 @@ public final class AlarmBoxes {
         private final int[] picked = new int[MOST_BEGINNINGS];
         private final int[] starts = new int[MOST_BEGINNINGS];
         private final long[] keys = new long[MOST_STORIES];
-        private Loop loop = null;
+        private ArrayList<Box> boxes = new ArrayList<Box>();
         private int from = 0;
         private int size = 0;
         int found = 0;
 
         int takeFrom(Loop line, int first, int last) {
-            loop = line;
+            boxes = line.boxes;
             from = first;
             openRange(last - first + 1);
             line.copyTape(first, last, heard);
@@ -724,7 +721,7 @@ public final class AlarmBoxes {
             if (first == NONE || depth >= size || depth >= MOST_BEGINNINGS) {
                 return;
             }
-            for (int along = 0; along < loop.boxes.size(); along++) {
+            for (int along = 0; along < boxes.size(); along++) {
                 if (!isPicked(along, depth)) {
                     explainBy(along, first, depth);
                 }
@@ -741,10 +738,10 @@ public final class AlarmBoxes {
         }
 
         private void explainBy(int along, int first, int depth) {
-            if (along >= loop.boxes.size() || depth < 0 || depth >= MOST_BEGINNINGS) {
+            if (along < 0 || along >= boxes.size() || depth < 0 || depth >= MOST_BEGINNINGS) {
                 return;
             }
-            Box box = loop.boxes.get(along);
+            Box box = boxes.get(along);
             for (int start = first; start >= 0 && start > first - box.length; start--) {
                 if (box.knocksBehind(first - start) && fits(box, start)) {
                     picked[depth] = along;
@@ -819,7 +816,7 @@ public final class AlarmBoxes {
 
         Box boxOfBeginning(int i, int j) {
             int along = beginning(i, j) >> 9;
-            return loop != null && along < loop.boxes.size() ? loop.boxes.get(along) : null;
+            return along >= 0 && along < boxes.size() ? boxes.get(along) : null;
         }
 
         int tickOfBeginning(int i, int j) {
@@ -829,15 +826,15 @@ public final class AlarmBoxes {
         Box boxToAsk() {
             Box best = null;
             int least = MOST_STORIES + 1;
-            if (loop == null || found < 2) {
+            if (found < 2) {
                 return null;
             }
-            for (int along = 0; along < loop.boxes.size(); along++) {
+            for (int along = 0; along < boxes.size(); along++) {
                 int having = countHaving(along);
                 int greater = Math.max(having, found - having);
                 if (greater < least) {
                     least = greater;
-                    best = loop.boxes.get(along);
+                    best = boxes.get(along);
                 }
             }
             return best;
@@ -957,22 +954,20 @@ public final class AlarmBoxes {
         }
     }
 
-    /** Who covers what: houses are held as bits, those with an engine in, and for each box those within reach. */
+    /**
+     * The boxes of all loops and the brigade that covers them: houses are held as bits, those with an engine in,
+     * and for each box those within reach.
+     */
     private static final class Cover {
         private final int[] near = new int[BOXES];
         private final int[] engines = new int[HOUSES];
         private final int[] movers = new int[2];
         private final int[] targets = new int[2];
-        private final Brigade brigade;
-        private final ArrayList<Box> boxes;
+        final Brigade brigade = new Brigade();
+        final ArrayList<Box> boxes = new ArrayList<Box>();
         private int needs = 0;
         private int manned = 0;
         private int taken = 0;
-
-        Cover(Brigade brigade, ArrayList<Box> boxes) {
-            this.brigade = brigade;
-            this.boxes = boxes;
-        }
 
         void survey() {
             needs = Math.min(boxes.size(), near.length);
@@ -1133,8 +1128,8 @@ public final class AlarmBoxes {
         private static final int MOST_SENT = 9;
         private static final int MOST_DEPTH = 5;
 
-        private final Letters letters;
-        private Deck deck = null;
+        final Letters letters = new Letters();
+        private Deck deck = new Deck();
         private int kind = END;
         private int place = 0;
         private int behind = 0;
@@ -1142,40 +1137,31 @@ public final class AlarmBoxes {
         private int amount = 0;
         private int fault = 0;
 
-        CardReader(Letters letters) {
-            this.letters = letters;
-        }
-
-        int readInto(Deck spare) {
-            deck = spare;
+        int readLines() {
             deck.clearLines();
             behind = 0;
             fault = 0;
             nextToken();
-            readLines();
+            for (int line = 0; line <= LINES && kind != END && fault == 0; line++) {
+                readLine(line);
+            }
             return fault;
         }
 
-        private void readLines() {
-            for (int line = 0; line <= LINES; line++) {
-                if (kind == END) {
-                    return;
-                }
-                if (!isWord("send")) {
-                    refuse(WRONG);
-                    return;
-                }
-                if (line == LINES) {
-                    refuse(TOO_MANY);
-                    return;
-                }
-                if (!readLine()) {
-                    return;
-                }
-            }
+        /** Gives the deck that was just read, and takes another one to read the next cards into. */
+        Deck changeFor(Deck other) {
+            Deck read = deck;
+            deck = other;
+            return read;
         }
 
-        private boolean readLine() {
+        private boolean readLine(int line) {
+            if (!isWord("send")) {
+                return refuse(WRONG);
+            }
+            if (line >= LINES) {
+                return refuse(TOO_MANY);
+            }
             nextToken();
             if (!takeAmount()) {
                 return false;
@@ -1573,7 +1559,8 @@ public final class AlarmBoxes {
                 falseOnes += told == 0 ? 1 : 0;
                 toldOnes += told == 0 || told == 1 ? 1 : 0;
             }
-            return 1000 * (falseOnes + 1) / (toldOnes + 2);
+            int whole = toldOnes + 2;
+            return whole > 0 ? 1000 * (falseOnes + 1) / whole : NONE;
         }
     }
 }

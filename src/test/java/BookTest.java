@@ -16,12 +16,6 @@ public final class BookTest {
         c.end();
     }
 
-    private static void pass(AlarmBoxes x, int ticks) {
-        for (int left = ticks; left > 0; left -= 5000) {
-            x.ticks(Math.min(left, 5000));
-        }
-    }
-
     private static void words() {
         AlarmBoxes x = new AlarmBoxes();
         x.box(0, 11, 0, 0, 0, 0);
@@ -38,7 +32,7 @@ public final class BookTest {
     private static void knownByDay() {
         AlarmBoxes x = new AlarmBoxes();
         x.box(0, 11, 0, 0, 0, 0);
-        pass(x, DAY - 1);
+        Check.pass(x, DAY - 1);
         x.alarm(0);
         x.ticks(1);
         x.alarm(0);
@@ -52,12 +46,12 @@ public final class BookTest {
         x.over(0, true);
         c.due("27 no word on day 0", x.known(0, 0), 2);
         c.due("27 true on day 1", x.known(0, 1), 1);
-        pass(x, DAY);
+        Check.pass(x, DAY);
         x.word(0, false);
         c.due("27 no word on day 0", x.known(0, 0), 2);
         c.due("27 true on day 1 still", x.known(0, 1), 1);
         c.due("27 false from day 2 on", x.known(0, 2), 0);
-        pass(x, DAY);
+        Check.pass(x, DAY);
         c.due("27 false on day 3", x.known(0, 3), 0);
         x.over(1, false);
         c.due("27 of the other, day 2", x.known(1, 2), 2);
@@ -109,9 +103,9 @@ public final class BookTest {
         AlarmBoxes x = new AlarmBoxes();
         x.box(0, 11, 0, 0, 0, 0);
         x.alarm(0);
-        pass(x, DAY);
+        Check.pass(x, DAY);
         x.over(0, true);
-        pass(x, DAY);
+        Check.pass(x, DAY);
         x.word(0, false);
         x.alarm(0);
         x.over(1, false);
@@ -141,7 +135,7 @@ public final class BookTest {
         x.alarm(0);
         x.over(2, false);
         c.due("29 of another ward it is not", x.worst(4), 3);
-        pass(x, DAY);
+        Check.pass(x, DAY);
         x.word(1, true);
         c.due("29 as known now", x.worst(4), 2);
     }
@@ -166,7 +160,7 @@ public final class BookTest {
     private static void lastDay() {
         AlarmBoxes x = new AlarmBoxes();
         x.box(0, 11, 0, 0, 0, 0);
-        pass(x, 999999);
+        Check.pass(x, 999999);
         x.alarm(0);
         x.over(0, true);
         c.due("27 day 11", x.known(0, 11), 1);

@@ -240,7 +240,7 @@ public final class CardsTest {
         c.due("16 none for another box", x.count(4), 0);
         x.alarm(1);
         c.due("16 one for this one", x.count(4), 1);
-        pass(x, 23 * 3600 + 3599);
+        Check.pass(x, 23 * 3600 + 3599);
         x.again(1);
         c.due("17 two at the second call", x.count(4), 3);
         x.ticks(1);
@@ -268,11 +268,5 @@ public final class CardsTest {
         c.due("16 a ladder", x.sent(0, 1), 1);
         c.due("16 a ladder", x.sent(0, 2), 3);
         c.due("16 no more", x.sent(0, 3), -1);
-    }
-
-    private static void pass(AlarmBoxes x, int ticks) {
-        for (int left = ticks; left > 0; left -= 5000) {
-            x.ticks(Math.min(left, 5000));
-        }
     }
 }

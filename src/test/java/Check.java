@@ -48,6 +48,13 @@ final class Check {
         return x.cards();
     }
 
+    /** Lets ticks pass, in as many calls as they need. */
+    static void pass(AlarmBoxes x, int ticks) {
+        for (int left = ticks; left > 0; left -= 5000) {
+            x.ticks(Math.min(left, 5000));
+        }
+    }
+
     void end() {
         System.out.println(wrong == 0 ? asked + " answers, all as due" : wrong + " of " + asked + " answers are not as due");
         if (wrong != 0) {
