@@ -825,7 +825,7 @@ public final class AlarmBoxes {
 
         Box boxToAsk() {
             Box best = null;
-            int least = MOST_STORIES + 1;
+            int least = found + 1;
             if (found < 2) {
                 return null;
             }
