@@ -28,6 +28,8 @@ public final class RefusalsTest {
         looksAndCounts();
         in(RefusalsTest::full);
         whatIsFull();
+        in(RefusalsTest::fiveThousandAheadOfTheEnd);
+        refused("2 to 1000000", -1, x -> x.ticks(5000));
         in(RefusalsTest::late);
         atTheEndOfTime();
         in(RefusalsTest::hundredAlarms);
@@ -67,7 +69,7 @@ public final class RefusalsTest {
 
     /**
      * Boxes 0 and 4 go on, 1 waits, 3 and 4 are dumb; alarm 0 is over and told of, 1 was called thrice, 2 is open, 3 is
-     * over; engines 3 and 5 are in, all others are sent; one move would cover all.
+     * over; engines 3 and 5 and ladder 6 are in, all others are sent; one move would cover all.
      */
     private static AlarmBoxes busy() {
         AlarmBoxes x = new AlarmBoxes();
@@ -81,13 +83,13 @@ public final class RefusalsTest {
         x.house(50, 50);
         x.house(70, 80);
         x.house(12, 90);
-        int[] kinds = {0, 0, 1, 0, 1, 0};
-        int[] houses = {0, 1, 0, 3, 1, 0};
-        for (int i = 0; i < 6; i++) {
+        int[] kinds = {0, 0, 1, 0, 1, 0, 1};
+        int[] houses = {0, 1, 0, 3, 1, 0, 3};
+        for (int i = 0; i < 7; i++) {
             x.company(kinds[i], houses[i]);
         }
         x.pace(4, 50);
-        Check.cards(x, "send 1 engines 0 ladders when call = 1; send 0 engines 1 ladders when false < 600;");
+        Check.cards(x, "send 1 engines 0 ladders when call = 1; send 0 engines 1 ladders when false < 700;");
         x.alarm(0);
         x.over(0, true);
         x.alarm(0);
@@ -126,7 +128,15 @@ public final class RefusalsTest {
             lines.append("send 1engines 2ladders when ").append(i).append(";");
         }
         Check.cards(x, lines.toString());
-        Check.feed(x, lines + "                    " + lines);
+        Check.feed(x, lines + " ".repeat(1000 - lines.length()));
+        return x;
+    }
+
+    private static AlarmBoxes fiveThousandAheadOfTheEnd() {
+        AlarmBoxes x = new AlarmBoxes();
+        x.box(0, 11, 0, 1, 1, 0);
+        Check.pass(x, 995000);
+        x.pull(0);
         return x;
     }
 
@@ -353,7 +363,7 @@ public final class RefusalsTest {
         }
         refused("19 it is over, as true", 0, x -> bit(x.over(0, false)));
         refused("19 it is over, as false", 0, x -> bit(x.over(3, true)));
-        for (int company : new int[] {-1, 6, 20, MIN, MAX}) {
+        for (int company : new int[] {-1, 7, 20, MIN, MAX}) {
             refused("20 company " + company, -1, x -> x.at(company));
             refused("21 company " + company, -1, x -> x.there(company));
         }
