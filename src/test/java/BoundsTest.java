@@ -588,12 +588,6 @@ public final class BoundsTest {
         c.due("14 empty again", x.feed(blanks, 0, 0), 8);
     }
 
-    private static void fault(String text, int kind, int place) {
-        AlarmBoxes x = new AlarmBoxes();
-        c.due("15 '" + text + "'", Check.cards(x, text), kind == 0 ? 0 : kind + 16 * place);
-        c.due("15 behind '" + text + "' the tape is empty", x.count(9), 0);
-    }
-
     /** Each known word with one letter changed, cut off or put behind it is none of the words that can stand there. */
     private static void promise15Words() {
         String[] words = {"send", "engines", "ladders", "when", "and", "or", "not", "box", "ward", "loop", "hour", "call", "out", "false"};
@@ -603,21 +597,21 @@ public final class BoundsTest {
         for (int i = 0; i < words.length; i++) {
             String word = words[i];
             int place = texts[i].indexOf('%');
-            fault(texts[i].replace("%s", word), 0, 0);
-            fault(texts[i].replace("%s", word + "z"), 1, place);
-            fault(texts[i].replace("%s", word + "a"), 1, place);
-            fault(texts[i].replace("%s", word.substring(1)), 1, place);
-            fault(texts[i].replace("%s", word.substring(0, word.length() - 1)), 1, place);
+            c.fault(texts[i].replace("%s", word), 0, 0);
+            c.fault(texts[i].replace("%s", word + "z"), 1, place);
+            c.fault(texts[i].replace("%s", word + "a"), 1, place);
+            c.fault(texts[i].replace("%s", word.substring(1)), 1, place);
+            c.fault(texts[i].replace("%s", word.substring(0, word.length() - 1)), 1, place);
             for (int k = 0; k < word.length(); k++) {
                 String other = word.substring(0, k) + (word.charAt(k) == 'z' ? 'y' : 'z') + word.substring(k + 1);
-                fault(texts[i].replace("%s", other), 1, place);
+                c.fault(texts[i].replace("%s", other), 1, place);
                 String capital = word.substring(0, k) + (char) (word.charAt(k) - 32) + word.substring(k + 1);
-                fault(texts[i].replace("%s", capital), 1, place + (k == 0 || isWordThere(word.substring(0, k), i) ? k : 0));
+                c.fault(texts[i].replace("%s", capital), 1, place + (k == 0 || isWordThere(word.substring(0, k), i) ? k : 0));
             }
         }
-        fault(HEAD + "aaaaaaaa;", 1, 30);
-        fault(HEAD + "aaaaaaaaa;", 1, 30);
-        fault("sendsendsend", 1, 0);
+        c.fault(HEAD + "aaaaaaaa;", 1, 30);
+        c.fault(HEAD + "aaaaaaaaa;", 1, 30);
+        c.fault("sendsendsend", 1, 0);
     }
 
     /** Whether the start of a word is a word that can stand in its place, so that the fault is at the sign behind it. */
@@ -628,41 +622,41 @@ public final class BoundsTest {
     private static void promise15Numbers() {
         for (int n = 0; n <= 10000; n = n < 12 ? n + 1 : n == 12 ? 99 : n * 10 + n % 10) {
             boolean isNumber = n <= 9999;
-            fault("send " + n + " engines 0 ladders when 1;", n <= 9 ? 0 : isNumber ? 4 : 1, 5);
-            fault("send 0 engines " + n + " ladders when 1;", n <= 9 ? 0 : isNumber ? 4 : 1, 15);
-            fault(HEAD + n + ";", isNumber ? 0 : 1, 30);
+            c.fault("send " + n + " engines 0 ladders when 1;", n <= 9 ? 0 : isNumber ? 4 : 1, 5);
+            c.fault("send 0 engines " + n + " ladders when 1;", n <= 9 ? 0 : isNumber ? 4 : 1, 15);
+            c.fault(HEAD + n + ";", isNumber ? 0 : 1, 30);
         }
-        fault("send 10000 engines 0 ladders when 1;", 1, 5);
-        fault("send 0009 engines 0 ladders when 9999;", 0, 0);
-        fault("send 00009 engines 0 ladders when 9999;", 1, 5);
-        fault(HEAD + "0000;", 0, 0);
-        fault(HEAD + "00000;", 1, 30);
-        fault(HEAD + "10000;", 1, 30);
-        fault(HEAD + "1and 2or 3;", 0, 0);
-        fault(HEAD + "1 and2or3;", 0, 0);
-        fault(HEAD + "box1;", 1, 33);
-        fault("send 10engines", 4, 5);
-        fault("send 9engines 9ladders when1;", 0, 0);
+        c.fault("send 10000 engines 0 ladders when 1;", 1, 5);
+        c.fault("send 0009 engines 0 ladders when 9999;", 0, 0);
+        c.fault("send 00009 engines 0 ladders when 9999;", 1, 5);
+        c.fault(HEAD + "0000;", 0, 0);
+        c.fault(HEAD + "00000;", 1, 30);
+        c.fault(HEAD + "10000;", 1, 30);
+        c.fault(HEAD + "1and 2or 3;", 0, 0);
+        c.fault(HEAD + "1 and2or3;", 0, 0);
+        c.fault(HEAD + "box1;", 1, 33);
+        c.fault("send 10engines", 4, 5);
+        c.fault("send 9engines 9ladders when1;", 0, 0);
     }
 
     private static void promise15Signs() {
         String known = "()<=+-;";
         for (char sign = 33; sign <= 126; sign++) {
             if (!Character.isDigit(sign) && !Character.isLowerCase(sign) && known.indexOf(sign) < 0) {
-                fault(HEAD + "1" + sign + "1;", 1, 31);
-                fault("" + sign, 1, 0);
+                c.fault(HEAD + "1" + sign + "1;", 1, 31);
+                c.fault("" + sign, 1, 0);
             }
         }
-        fault("\n\n  send 1 engines 0 ladders when\n(1)\n+\n1\n<\n1 ; \n", 0, 0);
-        fault("send1engines0ladders when(1)+1-1=1;send1engines0ladders when 1<1;", 0, 0);
-        fault("", 0, 0);
-        fault(" \n ", 0, 0);
-        fault(HEAD + "1;  ", 0, 0);
-        fault(HEAD + "1  ", 1, 33);
-        fault(HEAD, 1, 30);
-        fault(HEAD + "1 <  ", 1, 35);
-        fault(HEAD + "1 < 1 = 1;", 1, 36);
-        fault(HEAD + "1 = 1 = 1;", 1, 36);
+        c.fault("\n\n  send 1 engines 0 ladders when\n(1)\n+\n1\n<\n1 ; \n", 0, 0);
+        c.fault("send1engines0ladders when(1)+1-1=1;send1engines0ladders when 1<1;", 0, 0);
+        c.fault("", 0, 0);
+        c.fault(" \n ", 0, 0);
+        c.fault(HEAD + "1;  ", 0, 0);
+        c.fault(HEAD + "1  ", 1, 33);
+        c.fault(HEAD, 1, 30);
+        c.fault(HEAD + "1 <  ", 1, 35);
+        c.fault(HEAD + "1 < 1 = 1;", 1, 36);
+        c.fault(HEAD + "1 = 1 = 1;", 1, 36);
     }
 
     /** The 24th line is still taken; of the 25th the word send is one too many, anything else can't stand there. */
@@ -674,13 +668,13 @@ public final class BoundsTest {
             c.due("15 " + i + " lines", Check.cards(x, text.toString()), 0);
             c.due("31 " + i + " lines", x.count(8), i);
         }
-        fault(text + "\n", 0, 0);
-        fault(text + "send 0engines 0ladders when 1;", 5, 720);
-        fault(text + " send", 5, 721);
-        fault(text + "sends", 1, 720);
-        fault(text + "not", 1, 720);
-        fault(text + "5", 1, 720);
-        fault(text + "#", 1, 720);
+        c.fault(text + "\n", 0, 0);
+        c.fault(text + "send 0engines 0ladders when 1;", 5, 720);
+        c.fault(text + " send", 5, 721);
+        c.fault(text + "sends", 1, 720);
+        c.fault(text + "not", 1, 720);
+        c.fault(text + "5", 1, 720);
+        c.fault(text + "#", 1, 720);
     }
 
     /** What was read ahead, or went wrong, leaves nothing behind in what is read next. */
@@ -729,21 +723,21 @@ public final class BoundsTest {
             for (int i = 0; i < 4; i++) {
                 deep = "1 and 0 = 0 + (" + deep + ")";
             }
-            fault(HEAD + "(" + deep + ");", 5, 31 + deep.indexOf(inmost + ")"));
+            c.fault(HEAD + "(" + deep + ");", 5, 31 + deep.indexOf(inmost + ")"));
             c.due("15 " + deep, Check.cards(x, HEAD + deep + ";"), 0);
             x.alarm(0);
             c.due("16 turned four times: " + inmost, x.count(4), inmost);
         }
-        fault(HEAD + "not(not(1+2<3 and 1));", 0, 0);
-        fault(HEAD + "not(not(1+(2<3 and 1)));", 5, 41);
-        fault(HEAD + "not(not(1+not 2));", 5, 44);
-        fault(HEAD + "not(not(not not 2));", 5, 42);
-        fault(HEAD + "(((( 2 ))))+not not not not 2;", 0, 0);
-        fault(HEAD + "(((((", 1, 35);
-        fault(HEAD + "((((( )", 1, 36);
-        fault(HEAD + "((((( engines", 1, 36);
-        fault(HEAD + "(((((box", 5, 35);
-        fault(HEAD + "(((((10000", 1, 35);
+        c.fault(HEAD + "not(not(1+2<3 and 1));", 0, 0);
+        c.fault(HEAD + "not(not(1+(2<3 and 1)));", 5, 41);
+        c.fault(HEAD + "not(not(1+not 2));", 5, 44);
+        c.fault(HEAD + "not(not(not not 2));", 5, 42);
+        c.fault(HEAD + "(((( 2 ))))+not not not not 2;", 0, 0);
+        c.fault(HEAD + "(((((", 1, 35);
+        c.fault(HEAD + "((((( )", 1, 36);
+        c.fault(HEAD + "((((( engines", 1, 36);
+        c.fault(HEAD + "(((((box", 5, 35);
+        c.fault(HEAD + "(((((10000", 1, 35);
     }
 
     private static void promise16Hour() {

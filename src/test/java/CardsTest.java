@@ -20,12 +20,6 @@ public final class CardsTest {
         c.end();
     }
 
-    private static void fault(String text, int kind, int place) {
-        AlarmBoxes x = new AlarmBoxes();
-        c.due("15 '" + text + "'", Check.cards(x, text), kind == 0 ? 0 : kind + 16 * place);
-        c.due("15 the tape is empty behind '" + text + "'", x.count(9), 0);
-    }
-
     private static void feed() {
         AlarmBoxes x = new AlarmBoxes();
         c.due("14 nothing", x.feed(0, 0, 0), 0);
@@ -54,8 +48,8 @@ public final class CardsTest {
     }
 
     private static void emptyTape() {
-        fault("", 0, 0);
-        fault(" \n ", 0, 0);
+        c.fault("", 0, 0);
+        c.fault(" \n ", 0, 0);
         AlarmBoxes x = new AlarmBoxes();
         c.due("15 a line", Check.cards(x, HEAD + "1;"), 0);
         c.due("31 one line", x.count(8), 1);
@@ -64,83 +58,83 @@ public final class CardsTest {
     }
 
     private static void tokens() {
-        fault("send 1 engines 0 ladders when 1;", 0, 0);
-        fault("send1engines 0ladders when 1;", 0, 0);
-        fault("\nsend\n1 engines\n0 ladders when 1 ; \n", 0, 0);
-        fault("send 009 engines 0000 ladders when 9999;", 0, 0);
-        fault(HEAD + "box=12and(ward<1)or not call;", 0, 0);
-        fault(HEAD + "1+2-3=4-5+6;", 0, 0);
-        fault(HEAD + "not 1not;", 1, 35);
-        fault("sendsend 1", 1, 0);
-        fault("sen 1", 1, 0);
-        fault("Send 1", 1, 0);
+        c.fault("send 1 engines 0 ladders when 1;", 0, 0);
+        c.fault("send1engines 0ladders when 1;", 0, 0);
+        c.fault("\nsend\n1 engines\n0 ladders when 1 ; \n", 0, 0);
+        c.fault("send 009 engines 0000 ladders when 9999;", 0, 0);
+        c.fault(HEAD + "box=12and(ward<1)or not call;", 0, 0);
+        c.fault(HEAD + "1+2-3=4-5+6;", 0, 0);
+        c.fault(HEAD + "not 1not;", 1, 35);
+        c.fault("sendsend 1", 1, 0);
+        c.fault("sen 1", 1, 0);
+        c.fault("Send 1", 1, 0);
     }
 
     private static void noTokens() {
-        fault(HEAD + "wardwards;", 1, 30);
-        fault(HEAD + "12345;", 1, 30);
-        fault(HEAD + "1 & 2;", 1, 32);
-        fault(HEAD + "1 + B;", 1, 34);
-        fault(HEAD + "{1};", 1, 30);
-        fault("send 12345 engines", 1, 5);
-        fault(HEAD + "1 ~", 1, 32);
+        c.fault(HEAD + "wardwards;", 1, 30);
+        c.fault(HEAD + "12345;", 1, 30);
+        c.fault(HEAD + "1 & 2;", 1, 32);
+        c.fault(HEAD + "1 + B;", 1, 34);
+        c.fault(HEAD + "{1};", 1, 30);
+        c.fault("send 12345 engines", 1, 5);
+        c.fault(HEAD + "1 ~", 1, 32);
     }
 
     private static void misplaced() {
-        fault("1", 1, 0);
-        fault("send", 1, 4);
-        fault("send  ", 1, 6);
-        fault("send engines", 1, 5);
-        fault("send 1 ladders", 1, 7);
-        fault("send 1 engines 1 engines", 1, 17);
-        fault("send 1 engines ladders", 1, 15);
-        fault("send 1 engines 1 ladders 1", 1, 25);
-        fault(HEAD + ";", 1, 30);
-        fault(HEAD + "1", 1, 31);
-        fault(HEAD + "1 ", 1, 32);
-        fault(HEAD + "1 1;", 1, 32);
-        fault(HEAD + "(1;", 1, 32);
-        fault(HEAD + "1);", 1, 31);
-        fault(HEAD + "();", 1, 31);
-        fault(HEAD + "1 < 2 < 3;", 1, 36);
-        fault(HEAD + "1 = 2 < 3;", 1, 36);
-        fault(HEAD + "(1 < 2) < 3;", 0, 0);
-        fault(HEAD + "1 and or 2;", 1, 36);
-        fault(HEAD + "- 1;", 1, 30);
-        fault(HEAD + "1 + + 1;", 1, 34);
-        fault(HEAD + "when;", 1, 30);
-        fault(HEAD + "not;", 1, 33);
-        fault(HEAD + "1 not 1;", 1, 32);
-        fault(HEAD + "1;1", 1, 32);
-        fault(HEAD + "1;;", 1, 32);
-        fault(HEAD + "1; send", 1, 37);
+        c.fault("1", 1, 0);
+        c.fault("send", 1, 4);
+        c.fault("send  ", 1, 6);
+        c.fault("send engines", 1, 5);
+        c.fault("send 1 ladders", 1, 7);
+        c.fault("send 1 engines 1 engines", 1, 17);
+        c.fault("send 1 engines ladders", 1, 15);
+        c.fault("send 1 engines 1 ladders 1", 1, 25);
+        c.fault(HEAD + ";", 1, 30);
+        c.fault(HEAD + "1", 1, 31);
+        c.fault(HEAD + "1 ", 1, 32);
+        c.fault(HEAD + "1 1;", 1, 32);
+        c.fault(HEAD + "(1;", 1, 32);
+        c.fault(HEAD + "1);", 1, 31);
+        c.fault(HEAD + "();", 1, 31);
+        c.fault(HEAD + "1 < 2 < 3;", 1, 36);
+        c.fault(HEAD + "1 = 2 < 3;", 1, 36);
+        c.fault(HEAD + "(1 < 2) < 3;", 0, 0);
+        c.fault(HEAD + "1 and or 2;", 1, 36);
+        c.fault(HEAD + "- 1;", 1, 30);
+        c.fault(HEAD + "1 + + 1;", 1, 34);
+        c.fault(HEAD + "when;", 1, 30);
+        c.fault(HEAD + "not;", 1, 33);
+        c.fault(HEAD + "1 not 1;", 1, 32);
+        c.fault(HEAD + "1;1", 1, 32);
+        c.fault(HEAD + "1;;", 1, 32);
+        c.fault(HEAD + "1; send", 1, 37);
     }
 
     private static void numbersNotAsTold() {
-        fault("send 10 engines 0 ladders when 1;", 4, 5);
-        fault("send 9 engines 9 ladders when 1;", 0, 0);
-        fault("send 9 engines 10 ladders when 1;", 4, 15);
-        fault("send 9999 x", 4, 5);
+        c.fault("send 10 engines 0 ladders when 1;", 4, 5);
+        c.fault("send 9 engines 9 ladders when 1;", 0, 0);
+        c.fault("send 9 engines 10 ladders when 1;", 4, 15);
+        c.fault("send 9999 x", 4, 5);
     }
 
     private static void depth() {
-        fault(HEAD + "not not not not 1;", 0, 0);
-        fault(HEAD + "not not not not not 1;", 5, 50);
-        fault(HEAD + "not not not not not not;", 5, 50);
-        fault(HEAD + "not not not not not ;", 1, 50);
-        fault(HEAD + "((((1))));", 0, 0);
-        fault(HEAD + "(((((1)))));", 5, 35);
-        fault(HEAD + "((((((1))))));", 5, 35);
-        fault(HEAD + "((((( and", 1, 36);
-        fault(HEAD + "(not(not(not 1)));", 5, 39);
-        fault(HEAD + "(not(not(1)));", 5, 39);
-        fault(HEAD + "(not(not 1 + ward)) + (((box)));", 0, 0);
-        fault(HEAD + "(not(not 1 + (ward)));", 0, 0);
-        fault(HEAD + "1 < not not not not not 1;", 5, 54);
-        fault(HEAD + "1 + not not not not not 1;", 5, 54);
-        fault(HEAD + "1 or not not not not not 1;", 5, 55);
-        fault(HEAD + "1 and 1 - (((((1)))));", 5, 45);
-        fault(HEAD + "((((1 and call < 2 or out))));", 0, 0);
+        c.fault(HEAD + "not not not not 1;", 0, 0);
+        c.fault(HEAD + "not not not not not 1;", 5, 50);
+        c.fault(HEAD + "not not not not not not;", 5, 50);
+        c.fault(HEAD + "not not not not not ;", 1, 50);
+        c.fault(HEAD + "((((1))));", 0, 0);
+        c.fault(HEAD + "(((((1)))));", 5, 35);
+        c.fault(HEAD + "((((((1))))));", 5, 35);
+        c.fault(HEAD + "((((( and", 1, 36);
+        c.fault(HEAD + "(not(not(not 1)));", 5, 39);
+        c.fault(HEAD + "(not(not(1)));", 5, 39);
+        c.fault(HEAD + "(not(not 1 + ward)) + (((box)));", 0, 0);
+        c.fault(HEAD + "(not(not 1 + (ward)));", 0, 0);
+        c.fault(HEAD + "1 < not not not not not 1;", 5, 54);
+        c.fault(HEAD + "1 + not not not not not 1;", 5, 54);
+        c.fault(HEAD + "1 or not not not not not 1;", 5, 55);
+        c.fault(HEAD + "1 and 1 - (((((1)))));", 5, 45);
+        c.fault(HEAD + "((((1 and call < 2 or out))));", 0, 0);
     }
 
     private static void lines() {
@@ -148,11 +142,11 @@ public final class CardsTest {
         for (int i = 0; i < 24; i++) {
             text.append("send 0engines 0ladders when 1;");
         }
-        fault(text.toString(), 0, 0);
-        fault(text + "send", 5, 24 * 30);
-        fault(text + " send 1 engines", 5, 24 * 30 + 1);
-        fault(text + "when", 1, 24 * 30);
-        fault(text + ";", 1, 24 * 30);
+        c.fault(text.toString(), 0, 0);
+        c.fault(text + "send", 5, 24 * 30);
+        c.fault(text + " send 1 engines", 5, 24 * 30 + 1);
+        c.fault(text + "when", 1, 24 * 30);
+        c.fault(text + ";", 1, 24 * 30);
         AlarmBoxes x = new AlarmBoxes();
         Check.cards(x, text.toString());
         c.due("31 24 lines", x.count(8), 24);

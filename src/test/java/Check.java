@@ -48,6 +48,13 @@ final class Check {
         return x.cards();
     }
 
+    /** What a text on a new tape of letters is read as (kind 0: no fault), and that the tape is empty then. */
+    void fault(String text, int kind, int place) {
+        AlarmBoxes x = new AlarmBoxes();
+        due("15 '" + text + "'", cards(x, text), kind == 0 ? 0 : kind + 16 * place);
+        due("15 behind '" + text + "' the tape is empty", x.count(9), 0);
+    }
+
     /** Lets ticks pass, in as many calls as they need. */
     static void pass(AlarmBoxes x, int ticks) {
         for (int left = ticks; left > 0; left -= 5000) {

@@ -56,7 +56,12 @@ public final class FaceTest {
     private static void classesInside() {
         Class<?>[] inside = AlarmBoxes.class.getDeclaredClasses();
         c.due("twelve classes at most", inside.length <= 11, true);
-        List<String> names = Arrays.stream(FACE).map(s -> s.replaceAll(".* |\\(.*", "")).collect(Collectors.toList());
+        List<String> names = Arrays.stream(FACE).map(s -> s.replaceAll("\\(.*", "").replaceAll(".* ", "")).collect(Collectors.toList());
+        c.due("names of the face", names.contains("ticks") && names.contains("count"), true);
+        for (Method m : AlarmBoxes.class.getDeclaredMethods()) {
+            boolean hides = Modifier.isPrivate(m.getModifiers()) && names.contains(m.getName());
+            c.due(m + " is private and bears a public name", hides, false);
+        }
         for (Class<?> k : inside) {
             c.due(k + " is static", Modifier.isStatic(k.getModifiers()), true);
             long fields = Arrays.stream(k.getDeclaredFields()).filter(f -> !Modifier.isStatic(f.getModifiers())).count();
