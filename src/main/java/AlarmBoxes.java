@@ -796,7 +796,7 @@ public final class AlarmBoxes {
                 at--;
             }
             boolean isKept = at > 0 && at <= keys.length && keys[at - 1] == key;
-            if (isKept || at >= keys.length) {
+            if (isKept || at < 0 || at >= keys.length) {
                 return;
             }
             for (int i = found < keys.length ? found : keys.length - 1; i > at; i--) {
@@ -880,7 +880,7 @@ public final class AlarmBoxes {
         int reach = 40;
 
         int addHouse(int x, int y) {
-            if (houses >= houseX.length || houses >= houseY.length) {
+            if (houses < 0 || houses >= houseX.length || houses >= houseY.length) {
                 return NONE;
             }
             houseX[houses] = x;
@@ -1075,7 +1075,7 @@ public final class AlarmBoxes {
             return false;
         }
 
-        /** A house that an engine leaves by these moves is not free: the engine is in it as long as they are not done. */
+        /** A house that an engine leaves by these moves is not free: the engine is in it till they are done. */
         private boolean isFree(int h, int i) {
             return (taken >> h & 1) == 0 && (i == 0 || houseAt(0) != h);
         }
@@ -1271,13 +1271,22 @@ public final class AlarmBoxes {
             }
             int step = fact == NONE ? value : Deck.FIRST_FACT - fact;
             nextToken();
-            if (opens) {
-                return readWhole(depth + 1) && takeSign(')');
+            if (opens || denies) {
+                return readInner(opens, depth + 1);
             }
-            if (denies && !readPart(depth + 1)) {
+            deck.addStep(step);
+            return true;
+        }
+
+        /** What stands behind "(" or "not" is read apart, as the language wants no method of an object to call itself. */
+        private boolean readInner(boolean opens, int depth) {
+            if (opens) {
+                return readWhole(depth) && takeSign(')');
+            }
+            if (!readPart(depth)) {
                 return false;
             }
-            deck.addStep(denies ? Deck.NOT : step);
+            deck.addStep(Deck.NOT);
             return true;
         }
 

@@ -8,6 +8,8 @@ import java.nio.file.Path;
 import java.util.Arrays;
 import java.util.List;
 import java.util.TreeSet;
+import java.util.regex.Matcher;
+import java.util.regex.Pattern;
 import java.util.stream.Collectors;
 
 /** The public face is the document's and nothing more, and the source keeps to the rules of LANGUAGE.md that can be read off. */
@@ -25,6 +27,7 @@ public final class FaceTest {
         members();
         classesInside();
         source();
+        recursion();
         c.end();
     }
 
@@ -87,5 +90,28 @@ public final class FaceTest {
             c.due(code, !counts || !code.contains("throw ") || code.equals("throw new NoSuchElementException();")
                 || code.endsWith("default: throw new NoSuchElementException();"), true);
         }
+    }
+
+    /** Rule 8: a method that calls itself is private and static; methods of an object may only call one another. */
+    private static void recursion() throws IOException {
+        Pattern head = Pattern.compile("^(?: {4}| {8})((?:[a-z]+ )*)[A-Za-z\\[\\]]+ ([a-z][a-zA-Z]*)\\([^;]*\\{$");
+        String name = "";
+        String kind = "";
+        int methods = 0;
+        for (String line : Files.readAllLines(Path.of("src/main/java/AlarmBoxes.java"))) {
+            Matcher m = head.matcher(line);
+            if (m.matches() && !m.group(1).contains("new ")) {
+                kind = m.group(1);
+                name = m.group(2);
+                methods++;
+            } else if (!name.isEmpty() && Pattern.compile("(?<![.\\w])" + name + "\\(").matcher(line).find()) {
+                c.due(name + " calls itself, is private and static", kind.contains("private static"), true);
+            }
+        }
+        long declared = Arrays.stream(AlarmBoxes.class.getDeclaredMethods()).filter(m -> !m.isSynthetic()).count();
+        for (Class<?> inside : AlarmBoxes.class.getDeclaredClasses()) {
+            declared += Arrays.stream(inside.getDeclaredMethods()).filter(m -> !m.isSynthetic()).count();
+        }
+        c.due("the methods that were looked at", methods, declared);
     }
 }
